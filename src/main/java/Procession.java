@@ -30,13 +30,13 @@ public final class Procession {
     private final Steps steps = new Steps();
     private final Sayings sayings = new Sayings();
     private final Finder finder = new Finder();
+    // A new image is that of a new object.
     private final Image kept = new Image();
     private final int[] stack = new int[TAPE_BYTES];
     private int textCount = 0;
     private int ruling = NONE;
 
     public Procession() {
-        kept.take(row, steps, sayings, textCount, ruling);
     }
 
     // ---- the tape and its texts
@@ -1000,8 +1000,9 @@ public final class Procession {
         /** Who joined latest by the book; 0, if no such line is in it. */
         int latest() {
             for (int i = MOST_LINES - 1; i >= 0; i--) {
-                if (i < cells[LINES] && lineKind(cells[BOOK + i]) == CAME) {
-                    return lineNumber(cells[BOOK + i]);
+                int line = cells[BOOK + i];
+                if (i < cells[LINES] && (line >>> 4 & 3) == CAME) {
+                    return line >>> 6 & 15;
                 }
             }
             return 0;
@@ -1185,7 +1186,7 @@ public final class Procession {
                 case Scanner.LONG:
                     return row.places();
                 case Scanner.WALK:
-                    return row.walking();
+                    return Integer.bitCount(row.standing());
                 case Scanner.SINCE:
                     return row.since(number);
                 case Scanner.FIRST:
@@ -1440,8 +1441,8 @@ public final class Procession {
     }
 
     /**
-     * Reads a tape by its grammar. Behind the first fault nothing more is read: every
-     * method then comes back without a look at the tokens.
+     * Reads a tape by its grammar. Behind the first fault nothing more is read: every method
+     * then comes back at once, and the token that is come to is the one that has the fault.
      */
     private static final class Reader {
         private static final int CANT_STAND = 1;
@@ -1478,6 +1479,7 @@ public final class Procession {
                 readClause();
             }
             if (fault != 0) {
+                faultPlace = scanner.from();
                 return null;
             }
             return new Script(Arrays.copyOf(kinds, clauses), Arrays.copyOf(ones, clauses),
@@ -1487,7 +1489,6 @@ public final class Procession {
         private void refuse(int kind) {
             if (fault == 0) {
                 fault = kind;
-                faultPlace = scanner.from();
             }
         }
 
@@ -1718,19 +1719,21 @@ public final class Procession {
         private static final int COUNTED = 0;
         private static final int FITTING = 1;
         private static final int WON = 2;
+        // Behind this the places of the round.
+        private static final int ROUND = 3;
         // A number with no more first places than this is laid ahead of all others.
         private static final int FEW = 2;
 
+        // How many places it is from the first to the second of a number.
         private final int[] apart = new int[NUMBERS + 1];
-        // Numbers of one distance take places alike: bits of them, of each.
+        // Numbers of one distance take places alike: how a set is counted by the lowest of them.
         private final int[] alike = new int[NUMBERS + 1];
+        private final int[] alikeBelow = new int[NUMBERS + 1];
         private final long[] keys = new long[SLOTS];
         private final int[] answers = new int[SLOTS];
         private final int[] laid = new int[MOST_PLACES];
         private boolean changed = true;
         private long era = 0;
-        // Places of the round; 0 in a row.
-        private int around = 0;
 
         void learn(int number, int between) {
             if (isNumber(number) && apart[number] != between + 1) {
@@ -1752,6 +1755,7 @@ public final class Procession {
                         alike[number] |= bitOf(other);
                     }
                 }
+                alikeBelow[number] = alike[number] & bitOf(number) - 1;
             }
         }
 
@@ -1761,39 +1765,36 @@ public final class Procession {
 
         // ---- numbers and places
 
-        private static boolean isIn(int set, int number) {
-            return (set & bitOf(number)) != 0;
-        }
-
         /** Whether it is the lowest of those in the set that are alike: it then speaks for them. */
         private boolean speaks(int set, int number) {
-            return isIn(set, number) && (alike[number] & set & bitOf(number) - 1) == 0;
+            return (set & 1 << number - 1) != 0 && (set & alikeBelow[number]) == 0;
         }
 
         private int firstsOf(int number, int free) {
-            int distance = apart[number];
-            if (around == 0) {
-                return free & free >>> distance;
-            }
-            int way = distance % around;
-            if (way == 0) {
-                return 0;
-            }
-            int firsts = free & (free >>> way | free << around - way);
-            return 2 * way == around ? firsts & allOf(way) : firsts;
+            return free & free >>> apart[number];
         }
 
         private int pairOf(int number, int first) {
-            int second = first + apart[number];
-            return 1 << first | 1 << (around == 0 ? second : second % around);
+            return 1 << first | 1 << first + apart[number];
         }
 
+        private boolean isFirst(int number, int free, int first) {
+            return (firstsOf(number, free) >>> first & 1) != 0;
+        }
+
+        /** The lowest number of a set (of none 0). */
+        private static int lowestOf(int set) {
+            int low = set & LAST_SET;
+            return low == 0 ? 0 : Integer.numberOfTrailingZeros(low) + 1;
+        }
+
+        /** The number of a set that has the fewest first places. */
         private int scarcest(int set, int free) {
             int found = 0;
             int fewest = MOST_PLACES + 1;
             for (int number = 1; number <= NUMBERS && fewest > 0; number++) {
                 if (speaks(set, number)) {
-                    int many = Integer.bitCount(firstsOf(number, free));
+                    int many = Integer.bitCount(free & free >>> apart[number]);
                     if (many < fewest) {
                         fewest = many;
                         found = number;
@@ -1803,10 +1804,10 @@ public final class Procession {
             return found;
         }
 
-        // ---- what is remembered
+        // ---- what is remembered: of one slot the latest, so it costs but time if that is another
 
         private long keyOf(int question, int set, int free) {
-            return (((era << 5 | around) << 2 | question) << 8 | set) << 16 | free;
+            return ((era << 5 | question) << 8 | set) << 16 | free;
         }
 
         private static int slotOf(long key) {
@@ -1826,7 +1827,11 @@ public final class Procession {
             if (set == 0) {
                 return 1;
             }
-            if (Integer.bitCount(free) < 2 * Integer.bitCount(set)) {
+            int many = Integer.bitCount(set);
+            if (many == 1) {
+                return Integer.bitCount(free & free >>> apart[lowestOf(set)]);
+            }
+            if (Integer.bitCount(free) < 2 * many) {
                 return 0;
             }
             long key = keyOf(COUNTED, set, free);
@@ -1845,9 +1850,6 @@ public final class Procession {
                 return 0;
             }
             int firsts = firstsOf(number, free);
-            if (firsts == 0 || set == bitOf(number)) {
-                return Integer.bitCount(firsts);
-            }
             return Integer.bitCount(firsts) <= FEW
                     ? countByNumber(set, free, number, firsts) : countByPlace(set, free);
         }
@@ -1862,45 +1864,71 @@ public final class Procession {
             return found;
         }
 
+        /** By who stands at the first free place, or that nobody does. */
         private int countByPlace(int set, int free) {
             int place = Integer.numberOfTrailingZeros(free);
-            // In a round no place stays free; count sees that by itself.
             int found = count(set, free & ~(1 << place));
             for (int number = 1; number <= NUMBERS; number++) {
                 if (speaks(set, number)) {
-                    found += Integer.bitCount(alike[number] & set) * countAt(set, free, number, place);
+                    int pair = pairOf(number, place);
+                    if ((pair & ~free) == 0) {
+                        found += Integer.bitCount(alike[number] & set) * count(set & ~bitOf(number), free & ~pair);
+                    }
                 }
-            }
-            return found;
-        }
-
-        private int countAt(int set, int free, int number, int place) {
-            int found = countWith(set, free, number, place);
-            if (around != 0) {
-                found += countWith(set, free, number, Math.floorMod(place - apart[number], around));
             }
             return found;
         }
 
         /** As count, of a number of the set the first place being told. */
         int countWith(int set, int free, int number, int first) {
-            if (!isNumber(number) || first < 0 || first >= MOST_PLACES
-                    || (firstsOf(number, free) >>> first & 1) == 0) {
+            if (!isNumber(number) || first < 0 || first >= MOST_PLACES || !isFirst(number, free, first)) {
                 return 0;
             }
             return count(set & ~bitOf(number), free & ~pairOf(number, first));
         }
 
+        // ---- counting otherwise; each level takes a number away
+
         int countRound(int set) {
             if (set == 0) {
                 return 1;
             }
-            int number = Integer.numberOfTrailingZeros(set) + 1;
-            around = 2 * Integer.bitCount(set);
-            int free = allOf(around);
+            int number = lowestOf(set);
+            int places = 2 * Integer.bitCount(set);
+            int way = apart[number] % places;
+            if (way == 0) {
+                return 0;
+            }
             // The round looks alike from each place, so one first place of one number is enough.
-            int found = Integer.bitCount(firstsOf(number, free)) * countWith(set, free, number, 0);
-            around = 0;
+            int firsts = 2 * way == places ? way : places;
+            return firsts * countRest(set & ~bitOf(number), allOf(places) & ~(1 | 1 << way), places);
+        }
+
+        private int countRest(int set, int free, int places) {
+            if (set == 0 || places <= 0) {
+                return 1;
+            }
+            long key = keyOf(ROUND + places, set, free);
+            int slot = slotOf(key);
+            if (keys[slot] == key) {
+                return answers[slot];
+            }
+            int place = Integer.numberOfTrailingZeros(free);
+            int found = 0;
+            for (int number = 1; number <= NUMBERS; number++) {
+                if (speaks(set, number)) {
+                    int way = apart[number] % places;
+                    int onward = 1 << place | 1 << (place + way) % places;
+                    int backward = 1 << place | 1 << (place + places - way) % places;
+                    int rest = set & ~bitOf(number);
+                    int many = way != 0 && (onward & ~free) == 0 ? countRest(rest, free & ~onward, places) : 0;
+                    if (backward != onward && (backward & ~free) == 0) {
+                        many += countRest(rest, free & ~backward, places);
+                    }
+                    found += Integer.bitCount(alike[number] & set) * many;
+                }
+            }
+            remember(slot, key, found);
             return found;
         }
 
@@ -1913,23 +1941,28 @@ public final class Procession {
             int found = 0;
             for (int number = 1; number <= NUMBERS; number++) {
                 int last = place + 2 * apart[number];
-                if (isIn(set, number) && last < MOST_PLACES) {
-                    int three = 1 << place | 1 << place + apart[number] | 1 << last;
+                if (speaks(set, number) && last < MOST_PLACES) {
+                    int three = pairOf(number, place) | 1 << last;
                     if ((three & ~free) == 0) {
-                        found += countThrees(set & ~bitOf(number), free & ~three);
+                        found += Integer.bitCount(alike[number] & set)
+                                * countThrees(set & ~bitOf(number), free & ~three);
                     }
                 }
             }
             return found;
         }
 
-        // ---- whether there is any way
+        // ---- whether there is any way; as deep as counting
 
         boolean fits(int set, int free) {
             if (set == 0) {
                 return true;
             }
-            if (Integer.bitCount(free) < 2 * Integer.bitCount(set)) {
+            int many = Integer.bitCount(set);
+            if (many == 1) {
+                return (free & free >>> apart[lowestOf(set)]) != 0;
+            }
+            if (Integer.bitCount(free) < 2 * many) {
                 return false;
             }
             long key = keyOf(FITTING, set, free);
@@ -1947,21 +1980,8 @@ public final class Procession {
             if (!isNumber(number)) {
                 return false;
             }
-            int firsts = firstsOf(number, free);
-            if (firsts == 0 || set == bitOf(number)) {
-                return firsts != 0;
-            }
-            return Integer.bitCount(firsts) <= FEW
-                    ? fitsByNumber(set, free, number, firsts) : fitsByPlace(set, free);
-        }
-
-        private boolean fitsByNumber(int set, int free, int number, int firsts) {
-            for (int first = 0; first < MOST_PLACES; first++) {
-                if ((firsts >>> first & 1) != 0 && fits(set & ~bitOf(number), free & ~pairOf(number, first))) {
-                    return true;
-                }
-            }
-            return false;
+            return Integer.bitCount(firstsOf(number, free)) <= FEW
+                    ? lowestFirstOf(set, free, number) != NONE : fitsByPlace(set, free);
         }
 
         private boolean fitsByPlace(int set, int free) {
@@ -1976,8 +1996,16 @@ public final class Procession {
 
         /** As fits, of a number of the set the first place being told. */
         private boolean fitsWith(int set, int free, int number, int first) {
-            return (firstsOf(number, free) >>> first & 1) != 0
-                    && fits(set & ~bitOf(number), free & ~pairOf(number, first));
+            return isFirst(number, free, first) && fits(set & ~bitOf(number), free & ~pairOf(number, first));
+        }
+
+        private int lowestFirstOf(int set, int free, int number) {
+            for (int first = 0; first < MOST_PLACES; first++) {
+                if (fitsWith(set, free, number, first)) {
+                    return first;
+                }
+            }
+            return NONE;
         }
 
         /** The first place of a number in the lowest way; NONE, if it isn't of the set or there is no way. */
@@ -1985,22 +2013,13 @@ public final class Procession {
             int left = set;
             int open = free;
             for (int each = 1; each <= NUMBERS; each++) {
-                if (isIn(left, each)) {
+                if ((left & bitOf(each)) != 0) {
                     int first = lowestFirstOf(left, open, each);
                     if (first == NONE || each == number) {
                         return first;
                     }
                     left &= ~bitOf(each);
                     open &= ~pairOf(each, first);
-                }
-            }
-            return NONE;
-        }
-
-        private int lowestFirstOf(int set, int free, int number) {
-            for (int first = 0; first < MOST_PLACES; first++) {
-                if (fitsWith(set, free, number, first)) {
-                    return first;
                 }
             }
             return NONE;
@@ -2013,7 +2032,7 @@ public final class Procession {
             }
             int found = 0;
             for (int number = 1; number <= NUMBERS; number++) {
-                if (isIn(set, number) && isSettled(set, free, number)) {
+                if ((set & bitOf(number)) != 0 && isSettled(set, free, number)) {
                     found |= bitOf(number);
                 }
             }
@@ -2060,9 +2079,9 @@ public final class Procession {
                     for (int i = 0; i < NUMBERS && rest >= many; i++) {
                         rest -= many;
                         number++;
-                        many = isIn(left, number) ? countWith(left, open, number, at) : 0;
+                        many = (left & bitOf(number)) != 0 ? countWith(left, open, number, at) : 0;
                     }
-                    left &= ~(number == 0 ? 0 : bitOf(number));
+                    left &= number == 0 ? left : ~bitOf(number);
                     open &= ~(number == 0 ? 1 << at : lay(number, at));
                 }
             }
@@ -2082,7 +2101,7 @@ public final class Procession {
         /** Whether there is a row of the set that is its own turned one: then just one. */
         boolean isMirrored(int set, int places) {
             for (int number = 1; number <= NUMBERS; number++) {
-                if (isIn(set, number)) {
+                if ((set & bitOf(number)) != 0) {
                     int aside = places - 1 - apart[number];
                     if (aside < 0 || aside % 2 != 0 || !speaks(set, number)) {
                         return false;
@@ -2096,7 +2115,7 @@ public final class Procession {
         long choices(int set, int places) {
             long found = 1;
             for (int number = 1; number <= NUMBERS; number++) {
-                if (isIn(set, number)) {
+                if ((set & bitOf(number)) != 0) {
                     found *= Math.max(0, places - apart[number]);
                 }
             }

@@ -414,8 +414,8 @@ public final class Procession {
             return NONE;
         }
         measure();
-        int own = finder.isMirrored(set, places) ? 1 : 0;
-        return (finder.count(set, allOf(places)) + own) / 2;
+        // At most one row is its own turned one (each number in the middle); the others come in twos.
+        return (finder.count(set, allOf(places)) + 1) / 2;
     }
 
     public long rounds(int set) {
@@ -486,16 +486,14 @@ public final class Procession {
         }
         measure();
         int places = 2 * Integer.bitCount(set);
-        long all = finder.choices(set, places);
-        long good = all == 0 ? 0 : finder.count(set, allOf(places));
+        long good = finder.count(set, allOf(places));
+        // A number that has no first place at all comes here too.
         if (good == 0) {
             return low ? 1 : 0;
         }
+        long all = finder.choices(set, places);
         long common = commonDivisor(all, good);
-        if (common == 0) {
-            return NONE;
-        }
-        return (low ? all : good) / common;
+        return common == 0 ? NONE : (low ? all : good) / common;
     }
 
     public int most(int places, boolean many) {
@@ -1823,7 +1821,7 @@ public final class Procession {
         // ---- counting; each level takes a free place away, so there are at most 16
 
         /** In how many ways all of a set find place. */
-        int count(int set, int free) {
+        private int count(int set, int free) {
             if (set == 0) {
                 return 1;
             }
@@ -1933,7 +1931,7 @@ public final class Procession {
         }
 
         /** In how many ways three of each of a set fill the free places (five numbers at most). */
-        int countThrees(int set, int free) {
+        private int countThrees(int set, int free) {
             if (set == 0) {
                 return 1;
             }
@@ -1954,7 +1952,7 @@ public final class Procession {
 
         // ---- whether there is any way; as deep as counting
 
-        boolean fits(int set, int free) {
+        private boolean fits(int set, int free) {
             if (set == 0) {
                 return true;
             }
@@ -2098,25 +2096,12 @@ public final class Procession {
             return pairOf(number, first);
         }
 
-        /** Whether there is a row of the set that is its own turned one: then just one. */
-        boolean isMirrored(int set, int places) {
-            for (int number = 1; number <= NUMBERS; number++) {
-                if ((set & bitOf(number)) != 0) {
-                    int aside = places - 1 - apart[number];
-                    if (aside < 0 || aside % 2 != 0 || !speaks(set, number)) {
-                        return false;
-                    }
-                }
-            }
-            return true;
-        }
-
-        /** In how many ways the numbers of a set choose first places, each by itself. */
+        /** In how many ways the numbers of a set choose first places, each by itself (all have some). */
         long choices(int set, int places) {
             long found = 1;
             for (int number = 1; number <= NUMBERS; number++) {
                 if ((set & bitOf(number)) != 0) {
-                    found *= Math.max(0, places - apart[number]);
+                    found *= places - apart[number];
                 }
             }
             return found;
@@ -2124,7 +2109,7 @@ public final class Procession {
 
         // ---- the game; each level takes two free places away, so there are at most five
 
-        boolean wins(int set, int free) {
+        private boolean wins(int set, int free) {
             if (set == 0) {
                 return false;
             }
@@ -2139,7 +2124,7 @@ public final class Procession {
         }
 
         /** 100 times the lowest number by which it is won, and its lowest first place; NONE without. */
-        int winningPlay(int set, int free) {
+        private int winningPlay(int set, int free) {
             for (int number = 1; number <= NUMBERS; number++) {
                 if (speaks(set, number)) {
                     int first = winningFirst(set, free, number);

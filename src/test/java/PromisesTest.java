@@ -200,6 +200,12 @@ public final class PromisesTest {
         fault("Turn;", 1, 0);
         fault("turns;", 1, 0);
         fault("tur n;", 1, 0);
+        for (String letter : new String[] {"a", "z", "A", "Z", "m", "Q"}) {
+            fault("turn" + letter + ";", 1, 0);
+        }
+        for (String other : new String[] {"`", "{", "@", "[", "_", ":", ".", ",", "0", "9"}) {
+            fault("turn" + other + ";", 1, 4);
+        }
         fault("turn;;", 1, 5);
         fault("turn!;", 1, 4);
         fault("turn\t;", 1, 4);
@@ -965,8 +971,11 @@ public final class PromisesTest {
         due("kinds(3, 0)", x.kinds(3, 0), 0);
         due("kinds(1, 15)", x.kinds(1, 15), NONE);
         due("kinds(-1, 0)", x.kinds(-1, 0), NONE);
-        // 3 .. 1 . 1 .. 3 is its own turned one
-        due("kinds(5, 1) by rows", x.kinds(5, 1), (x.rows(5, 1) + 1) / 2);
+        // 3 1 0 1 3 is its own turned one; 1 3 1 0 0 3 and the like are not
+        due("rows(5, 1)", x.rows(5, 1), 1);
+        due("kinds(5, 1)", x.kinds(5, 1), 1);
+        due("rows(5, 2)", x.rows(5, 2), 4);
+        due("kinds(5, 2)", x.kinds(5, 2), 2);
         x = ruledBy("between 14;");
         due("two can't be", x.fewest(3), NONE);
         due("one can", x.fewest(8), 14);

@@ -3,6 +3,7 @@ import java.util.Random;
 /** Long runs of drawn calls, each answered by the class and by the document written out plainly. */
 public final class AgainstPlainTest {
     private static int wrong = 0;
+    private static int answered = 0;
     private static final int CALLS = 500;
 
     private final Random random;
@@ -22,7 +23,7 @@ public final class AgainstPlainTest {
         for (int run = from; run < from + runs && wrong < 10; run++) {
             new AgainstPlainTest(run).go();
         }
-        System.out.println(wrong == 0 ? "the class and the plain one answer alike" : wrong + " answers unlike");
+        System.out.println(wrong == 0 ? "the class and the plain one answer alike, " + answered + " calls" : wrong + " answers unlike");
         if (wrong != 0) {
             System.exit(1);
         }
@@ -59,6 +60,7 @@ public final class AgainstPlainTest {
     }
 
     private void due(String call, long got, long want) {
+        answered++;
         told.append(call).append(" = ").append(want).append('\n');
         if (got != want) {
             wrong++;
@@ -73,15 +75,28 @@ public final class AgainstPlainTest {
         return b ? 1 : 0;
     }
 
+    /** Far from all that is told, or near to where numbers of the machine end. */
+    private int far() {
+        int[] ends = {Integer.MIN_VALUE, Integer.MAX_VALUE, 1 << 30, -(1 << 30), 1 << 16, 256, -256, 32, 31, -32, 64};
+        return random.nextBoolean() ? random.nextInt() : ends[random.nextInt(ends.length)] + random.nextInt(5) - 2;
+    }
+
+    private int near(int drawn) {
+        return random.nextInt(60) == 0 ? far() : drawn;
+    }
+
     private int number() {
-        return random.nextInt(25) == 0 ? random.nextInt(14) - 3 : 1 + random.nextInt(8);
+        return near(random.nextInt(25) == 0 ? random.nextInt(14) - 3 : 1 + random.nextInt(8));
     }
 
     private int place() {
-        return random.nextInt(25) == 0 ? random.nextInt(22) - 3 : random.nextInt(other.all.now.length);
+        return near(random.nextInt(25) == 0 ? random.nextInt(22) - 3 : random.nextInt(other.all.now.length));
     }
 
     private int set() {
+        if (random.nextInt(60) == 0) {
+            return far();
+        }
         if (random.nextInt(30) == 0) {
             return random.nextBoolean() ? -1 - random.nextInt(3) : 256 + random.nextInt(300);
         }
@@ -95,11 +110,11 @@ public final class AgainstPlainTest {
 
     private int gaps(int set) {
         int left = 16 - 2 * Integer.bitCount(set & 255);
-        return random.nextInt(20) == 0 ? random.nextInt(22) - 2 : random.nextInt(Math.min(left, 5) + 1);
+        return near(random.nextInt(20) == 0 ? random.nextInt(22) - 2 : random.nextInt(Math.min(left, 5) + 1));
     }
 
     private int what(int most) {
-        return random.nextInt(12) == 0 ? random.nextInt(most + 5) - 2 : random.nextInt(most + 1);
+        return near(random.nextInt(12) == 0 ? random.nextInt(most + 5) - 2 : random.nextInt(most + 1));
     }
 
     // ---- what changes
@@ -108,7 +123,7 @@ public final class AgainstPlainTest {
         int n;
         switch (random.nextInt(14)) {
             case 0 -> {
-                n = random.nextInt(3) == 0 ? random.nextInt(20) - 1 : 8 + random.nextInt(9);
+                n = near(random.nextInt(3) == 0 ? random.nextInt(20) - 1 : 8 + random.nextInt(9));
                 due("length(" + n + ")", bit(one.length(n)), bit(other.length(n)));
             }
             case 1, 2, 3, 4, 5 -> {
@@ -121,20 +136,20 @@ public final class AgainstPlainTest {
             }
             case 7 -> due("turn()", one.turn(), other.turn());
             case 8 -> {
-                int by = random.nextInt(10) == 0 ? random.nextInt(50) - 25 : random.nextInt(9) - 4;
+                int by = near(random.nextInt(10) == 0 ? random.nextInt(50) - 25 : random.nextInt(9) - 4);
                 due("shift(" + by + ")", bit(one.shift(by)), bit(other.shift(by)));
             }
             case 9 -> {
-                n = random.nextInt(6) == 0 ? random.nextInt(70) - 4 : 1 + random.nextInt(3);
+                n = near(random.nextInt(6) == 0 ? random.nextInt(70) - 4 : 1 + random.nextInt(3));
                 due("day(" + n + ")", one.day(n), other.day(n));
             }
             case 10 -> {
-                n = random.nextInt(5) - random.nextInt(2);
+                n = near(random.nextInt(5) - random.nextInt(2));
                 due("played(" + n + ")", one.played(n), other.played(n));
             }
             case 11 -> {
-                int seed = random.nextInt(15) == 0 ? random.nextInt(3) * 9999 - 5000 : random.nextInt(10000);
-                n = random.nextInt(8) == 0 ? random.nextInt(50) - 4 : 1 + random.nextInt(40);
+                int seed = near(random.nextInt(15) == 0 ? random.nextInt(3) * 9999 - 5000 : random.nextInt(10000));
+                n = near(random.nextInt(8) == 0 ? random.nextInt(50) - 4 : 1 + random.nextInt(40));
                 due("years(" + seed + ", " + n + ")", one.years(seed, n), other.years(seed, n));
             }
             case 12 -> due("undo()", one.undo(), other.undo());
@@ -145,7 +160,7 @@ public final class AgainstPlainTest {
                 } else if (n == 1) {
                     due("back()", one.back(), other.back());
                 } else if (n < 5) {
-                    int t = random.nextInt(6) - 1;
+                    int t = near(random.nextInt(6) - 1);
                     due("by(" + t + ")", bit(one.by(t)), bit(other.by(t)));
                 } else {
                     int k = random.nextInt(10) == 0 ? -1 : number();
@@ -175,7 +190,7 @@ public final class AgainstPlainTest {
                 due("is(" + w + ")", one.is(w), other.is(w));
             }
             case 5, 6 -> {
-                int i = random.nextInt(28) - 1;
+                int i = near(random.nextInt(28) - 1);
                 w = what(3);
                 due("book(" + i + ", " + w + ")", one.book(i, w), other.book(i, w));
             }
@@ -204,23 +219,23 @@ public final class AgainstPlainTest {
         int n;
         switch (random.nextInt(18)) {
             case 0 -> {
-                n = random.nextInt(8) == 0 ? random.nextInt(70) - 4 : 1 + random.nextInt(20);
+                n = near(random.nextInt(8) == 0 ? random.nextInt(70) - 4 : 1 + random.nextInt(20));
                 due("foretold(" + n + ")", one.foretold(n), other.foretold(n));
             }
             case 1 -> due("can(" + k + ")", one.can(k), other.can(k));
             case 2 -> due("rows(" + s + ", " + g + ")", one.rows(s, g), other.rows(s, g));
             case 3 -> {
-                n = random.nextInt(18) - 1;
+                n = near(random.nextInt(18) - 1);
                 due("row(" + s + ", " + g + ", " + n + ")", one.row(s, g, n), other.row(s, g, n));
             }
             case 4 -> {
-                n = random.nextInt(18) - 1;
+                n = near(random.nextInt(18) - 1);
                 long all = other.rows(s, g);
-                int i = all > 0 ? random.nextInt((int) all + 1) : random.nextInt(3) - 1;
+                int i = near(all > 0 ? random.nextInt((int) all + 1) : random.nextInt(3) - 1);
                 due("rowAt(" + s + ", " + g + ", " + i + ", " + n + ")", one.rowAt(s, g, i, n), other.rowAt(s, g, i, n));
             }
             case 5 -> {
-                n = random.nextInt(18) - 1;
+                n = near(random.nextInt(18) - 1);
                 due("often(" + s + ", " + g + ", " + k + ", " + n + ")", one.often(s, g, k, n), other.often(s, g, k, n));
             }
             case 6 -> due("pinned(" + s + ", " + g + ")", one.pinned(s, g), other.pinned(s, g));
@@ -238,11 +253,11 @@ public final class AgainstPlainTest {
             }
             case 16 -> {
                 boolean many = random.nextBoolean();
-                n = random.nextInt(10) == 0 ? random.nextInt(20) - 1 : 1 + random.nextInt(12);
+                n = near(random.nextInt(10) == 0 ? random.nextInt(20) - 1 : 1 + random.nextInt(12));
                 due("most(" + n + ", " + many + ")", one.most(n, many), other.most(n, many));
             }
             default -> {
-                n = random.nextInt(12) == 0 ? random.nextInt(14) - 1 : 1 + random.nextInt(10);
+                n = near(random.nextInt(12) == 0 ? random.nextInt(14) - 1 : 1 + random.nextInt(10));
                 due("game(" + n + ", " + s + ")", one.game(n, s), other.game(n, s));
                 due("play(" + n + ", " + s + ")", one.play(n, s), other.play(n, s));
             }
@@ -285,7 +300,7 @@ public final class AgainstPlainTest {
                     one.feed(w[0], w[1], w[2], w[3], w[4]), other.feed(w[0], w[1], w[2], w[3], w[4]));
             calls++;
         }
-        int n = begun + text.length() + (random.nextInt(20) == 0 ? random.nextInt(9) - 4 : 0);
+        int n = near(begun + text.length() + (random.nextInt(20) == 0 ? random.nextInt(9) - 4 : 0));
         told.append("# ").append(text).append('\n');
         due("end(" + n + ")", one.end(n), other.end(n));
         due("about(4)", one.about(4), other.about(4));
@@ -299,7 +314,7 @@ public final class AgainstPlainTest {
         } else if (other.all.texts.size() == 4 && random.nextBoolean()) {
             due("back()", one.back(), other.back());
         }
-        int w = random.nextInt(5) - 2;
+        int w = near(random.nextInt(5) - 2);
         due("fault(" + w + ")", one.fault(w), other.fault(w));
         return calls + 8;
     }

@@ -7,6 +7,8 @@ final class EdgesOfFinding {
 
     static void run() {
         changesNothing();
+        askedInAnyOrder();
+        betweenAsNow();
         foretold();
         canJoin();
         rows();
@@ -92,6 +94,58 @@ final class EdgesOfFinding {
         due("rows(1, 1) by one between again", x.rows(1, 1), 1);
         x.by(NONE);
         due("rows(2, 2) by the number", x.rows(2, 2), 1);
+    }
+
+    /** What was asked ahead of it makes no difference to what is answered. */
+    private static void askedInAnyOrder() {
+        Edge.Call[] asks = {x -> x.rows(7, 1), x -> x.rows(31, 0), x -> x.rows(31, 1), x -> x.rowAt(7, 1, 2, 3),
+            x -> x.often(7, 1, 3, 2), x -> x.pinned(7, 1), x -> x.pinned(31, 1), x -> x.fewest(31), x -> x.fewest(7),
+            x -> x.fewest(3), x -> x.kinds(7, 1), x -> x.rounds(15), x -> x.rounds(7), x -> x.threes(7), x -> x.ways(12),
+            x -> x.fill(12, 4), x -> x.forced(12), x -> x.stay(31), x -> x.stay(15), x -> x.likely(15, true),
+            x -> x.most(7, false), x -> x.most(10, false), x -> x.game(5, 3), x -> x.game(7, 7), x -> x.game(8, 12),
+            x -> x.game(10, 31), x -> x.play(7, 7), x -> x.play(10, 31), x -> x.game(6, 7), x -> x.game(4, 3)};
+        for (String law : new String[] {"", "between 0;", "between number/2;"}) {
+            long[] fresh = new long[asks.length];
+            for (int i = 0; i < asks.length; i++) {
+                fresh[i] = asks[i].of(Edge.ruledBy(law));
+            }
+            for (int step : new int[] {1, 7, 11, 13, 29}) {
+                Procession x = Edge.ruledBy(law);
+                for (int i = 0; i < 3 * asks.length; i++) {
+                    int which = i * step % asks.length;
+                    due("ask " + which + " by '" + law + "', by steps of " + step, asks[which].of(x), fresh[which]);
+                }
+            }
+        }
+    }
+
+    private static void betweenAsNow() {
+        Procession x = new Procession();
+        Edge.read(x, "between 0;");
+        Edge.read(x, "between walk+number-1;tires 0;");
+        for (int i = 0; i < 3; i++) {
+            x.by(NONE);
+            due("rows(7, 0) by the number", x.rows(7, 0), 2);
+            due("fewest(31)", x.fewest(31), 1);
+            due("rounds(15)", x.rounds(15), 16);
+            due("ways(15)", x.ways(15), 2);
+            due("game(5, 3)", x.game(5, 3), 1);
+            due("most(4, false)", x.most(4, false), 1);
+            x.by(0);
+            due("rows(7, 0) by 0", x.rows(7, 0), 6);
+            due("fewest(31)", x.fewest(31), 0);
+            due("rounds(15)", x.rounds(15), 48);
+            due("ways(15)", x.ways(15), 24);
+            due("game(5, 3)", x.game(5, 3), 0);
+            due("most(4, false)", x.most(4, false), 3);
+        }
+        x.by(1);
+        due("rows(7, 0) by number-1", x.rows(7, 0), 0);
+        due("rows(6, 1) by number-1", x.rows(6, 1), 2);
+        x.join(1, 0);
+        due("rows(7, 0) by number, as 1 walks", x.rows(7, 0), 2);
+        x.leave(1);
+        due("rows(7, 0) by number-1 again", x.rows(7, 0), 0);
     }
 
     private static void foretold() {
@@ -220,6 +274,11 @@ final class EdgesOfFinding {
         row(x, 7, 0, 1, "312132");
         row(x, 15, 0, 0, "23421314");
         row(x, 15, 0, 1, "41312432");
+        row(x, 5, 1, 0, "31013");
+        row(x, 10, 2, 0, "420024");
+        row(x, 6, 2, 0, "230203");
+        row(x, 6, 2, 1, "302032");
+        row(x, 128, 8, 0, "8000000008");
         x = Edge.ruledBy("between 0;");
         String[] all = {"01122", "02211", "11022", "11220", "22011", "22110"};
         for (int i = 0; i < all.length; i++) {
@@ -277,6 +336,11 @@ final class EdgesOfFinding {
         due("fewest(3)", x.fewest(3), 1);
         due("fewest(7)", x.fewest(7), 0);
         due("fewest(128)", x.fewest(128), 8);
+        due("fewest(31)", x.fewest(31), 1);
+        due("fewest(63)", x.fewest(63), 1);
+        due("fewest(62)", x.fewest(62), 0);
+        due("fewest(248)", x.fewest(248), 2);
+        due("fewest(240)", x.fewest(240), 4);
         due("fewest(255)", x.fewest(255), 0);
         x = Edge.ruledBy("between 14;");
         due("fewest(1) by 14: sixteen places", x.fewest(1), 14);
@@ -323,6 +387,13 @@ final class EdgesOfFinding {
         due("rounds(2): the other of two places", x.rounds(2), 1);
         due("rounds(128): four times around and one on", x.rounds(128), 1);
         due("rounds(7)", x.rounds(7), 6);
+        due("rounds(13): more than rows, of which there is none", x.rounds(13), 12);
+        due("rounds(15)", x.rounds(15), 16);
+        due("rounds(31)", x.rounds(31), 0);
+        due("rounds(62)", x.rounds(62), 60);
+        due("rounds(248)", x.rounds(248), 40);
+        due("rounds(127)", x.rounds(127), 1120);
+        due("rounds(255)", x.rounds(255), 6656);
         x = Edge.ruledBy("between 14;");
         due("rounds(1) by 14: seven times around and one on", x.rounds(1), 1);
         due("rounds(3) by 14: three places on, one back", x.rounds(3), 4);
@@ -656,6 +727,12 @@ final class EdgesOfFinding {
         x.leave(1);
         x.leave(2);
         due("eldest() of nobody again", x.eldest(), NONE);
+        x.length(10);
+        x.join(8, 0);
+        x.day(1);
+        x.join(1, 1);
+        due("eldest(): 8", x.eldest(), 8);
+        due("widest(): 8", x.widest(), 8);
         Edge.told(0, "WIDEST: whose two places are farthest apart; likewise.");
         x = Edge.ruledBy("between if number=3 then 2 else 0 end;");
         due("widest() of nobody", x.widest(), NONE);
@@ -682,6 +759,12 @@ final class EdgesOfFinding {
         x.leave(1);
         x.length(9);
         due("64....46.", x.mirror(), false);
+        x = new Procession();
+        x.length(11);
+        x.join(8, 0);
+        due("8........8.", x.mirror(), false);
+        x.length(10);
+        due("8........8", x.mirror(), true);
         x = Edge.ruledBy("between 0;");
         x.length(2);
         x.join(3, 0);
@@ -708,6 +791,10 @@ final class EdgesOfFinding {
             x.join(number, number - 1);
         }
         due("all eight cross", x.crossed(), 28);
+        for (int number = 2; number <= 7; number++) {
+            x.leave(number);
+        }
+        due("1 and 8 cross", x.crossed(), 1);
         due("none is nested", x.nested(), 0);
         Edge.told(0, "NESTED: how many two of which both places of the one are between the two of the other.");
         x = new Procession();

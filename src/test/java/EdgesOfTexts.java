@@ -86,6 +86,17 @@ final class EdgesOfTexts {
         fine("day " + many("0", 294) + "1;");
         x = Edge.ruledBy("tires 1" + many("+0", 144) + "+7  ;");
         due("tires of 300 bytes", x.of(1, 4), 8);
+        // four long ones, with faults among them
+        x = new Procession();
+        for (int i = 0; i < 4; i++) {
+            due("a fault", Edge.read(x, "between 0" + many("+0", 140) + "+"), NONE);
+            due("a long text", Edge.read(x, "between 0" + many("+0", 70) + "+" + i + ";tires 1" + many("*1", 65) + ";"), i);
+        }
+        for (int i = 0; i < 4; i++) {
+            x.by(i);
+            due("between of text " + i, x.of(1, 3), i);
+            due("tires of text " + i, x.of(1, 4), 1);
+        }
     }
 
     private static void tokens() {
@@ -391,6 +402,7 @@ final class EdgesOfTexts {
         x.undo();
         due("last: none in the book", x.of(4, 3), 0);
         lastOfAFullBook();
+        lastOfAllKinds();
         fine("between day+number+long+walk+last;tires day+number+long+walk+since+first;");
     }
 
@@ -410,6 +422,25 @@ final class EdgesOfTexts {
         x.undo();
         x.undo();
         due("last: 1", x.of(5, 3), 1);
+    }
+
+    private static void lastOfAllKinds() {
+        Procession x = Edge.ruledBy("between last;tires if number=3 then 10 else 0 end;");
+        x.length(16);
+        x.by(NONE);
+        x.join(3, 8);
+        x.join(2, 10);
+        x.by(0);
+        due("last: 2, at a place above seven", x.of(5, 3), 2);
+        x.day(1);
+        due("last: 2, though 3 is gone tired since", x.of(5, 3), 2);
+        x.undo();
+        x.shift(-8);
+        x.day(1);
+        due("last: 2, though 3 is gone tired from place 0", x.of(5, 3), 2);
+        x.undo();
+        x.leave(3);
+        due("last: 2, though 3 left since", x.of(5, 3), 2);
     }
 
     private static void arithmetic() {

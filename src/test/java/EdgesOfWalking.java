@@ -101,6 +101,10 @@ final class EdgesOfWalking {
         due("of(3, 2) of one that left", x.of(3, 2), 0);
         x.join(3, 0);
         due("of(3, 2) of one that joined anew", x.of(3, 2), 0);
+        x.length(16);
+        x.join(8, 5);
+        x.day(7);
+        due("of(8, 2)", x.of(8, 2), 7);
     }
 
     private static void counters() {
@@ -224,6 +228,18 @@ final class EdgesOfWalking {
         due("turn() of a full row", x.turn(), 8);
         due("of(1, 0)", x.of(1, 0), 14);
         due("of(8, 1)", x.of(8, 1), 1);
+        due("is(4)", x.is(4), 0);
+        x = new Procession();
+        x.length(10);
+        x.join(8, 0);
+        x.length(12);
+        due("turn() of 8", x.turn(), 1);
+        due("of(8, 0)", x.of(8, 0), 2);
+        due("is(4)", x.is(4), 4095 - 4 - 2048);
+        due("shift(-1) of 8", x.shift(-1), true);
+        due("of(8, 0)", x.of(8, 0), 1);
+        due("of(8, 1)", x.of(8, 1), 10);
+        due("is(4)", x.is(4), 4095 - 2 - 1024);
         x = Edge.ruledBy("between 0;");
         x.length(2);
         x.join(5, 0);
@@ -581,5 +597,57 @@ final class EdgesOfWalking {
         due("is(0)", x.is(0), 0);
         due("undo()", x.undo(), 1);
         due("is(3)", x.is(3), 2);
+        imageOfSteps();
+        imageOfWhatWasSaid();
+    }
+
+    private static void imageOfSteps() {
+        Procession x = Edge.busy();
+        x.image();
+        x.day(60);
+        x.leave(1);
+        x.back();
+        due("about(2), though other steps came", x.about(2), 3);
+        due("undo() takes back the day", x.undo(), 2);
+        due("is(0)", x.is(0), 0);
+        due("of(1, 2)", x.of(1, 2), 0);
+        due("undo() takes back 1", x.undo(), 1);
+        due("is(3)", x.is(3), 2);
+        due("undo() takes back 2", x.undo(), 0);
+        due("is(3)", x.is(3), 0);
+        // an image of thirty steps
+        x = new Procession();
+        x.day(40);
+        x.image();
+        x.day(7);
+        x.back();
+        due("about(2)", x.about(2), 30);
+        for (int left = 29; left >= 0; left--) {
+            due("undo()", x.undo(), left);
+            due("is(0)", x.is(0), 10 + left);
+        }
+        due("undo() of none", x.undo(), NONE);
+        x.back();
+        due("undo() when it is back again", x.undo(), 29);
+        due("is(0)", x.is(0), 39);
+    }
+
+    private static void imageOfWhatWasSaid() {
+        Procession x = new Procession();
+        Edge.read(x, "between number;");
+        Edge.read(x, "between 9;");
+        x.said(2, 2);
+        x.image();
+        x.said(NONE, 0);
+        x.said(2, 9);
+        x.said(3, 9);
+        due("whose()", x.whose(), 2);
+        x.back();
+        due("about(3)", x.about(3), 1);
+        due("whose(): what was said is so again", x.whose(), 1);
+        x.said(NONE, 0);
+        x.back();
+        due("about(3)", x.about(3), 1);
+        due("whose()", x.whose(), 1);
     }
 }

@@ -128,6 +128,7 @@ final class EdgesOfFinding {
             due("rows(7, 0) by the number", x.rows(7, 0), 2);
             due("fewest(31)", x.fewest(31), 1);
             due("rounds(15)", x.rounds(15), 16);
+            due("rounds(255)", x.rounds(255), 6656);
             due("ways(15)", x.ways(15), 2);
             due("game(5, 3)", x.game(5, 3), 1);
             due("most(4, false)", x.most(4, false), 1);
@@ -135,6 +136,7 @@ final class EdgesOfFinding {
             due("rows(7, 0) by 0", x.rows(7, 0), 6);
             due("fewest(31)", x.fewest(31), 0);
             due("rounds(15)", x.rounds(15), 48);
+            due("rounds(255)", x.rounds(255), 80640);
             due("ways(15)", x.ways(15), 24);
             due("game(5, 3)", x.game(5, 3), 0);
             due("most(4, false)", x.most(4, false), 3);

@@ -906,6 +906,8 @@ public final class PromisesTest {
         int rows = (int) x.rows(15, 3);
         long before = -1;
         for (int i = 0; i < rows; i++) {
+            // an object is used for 512 calls at most
+            x = new Procession();
             long now = 0;
             for (int place = 0; place < 11; place++) {
                 now = now * 9 + x.rowAt(15, 3, i, place);
@@ -1098,10 +1100,9 @@ public final class PromisesTest {
         due("stay(7)", x.stay(7), 3);
         due("stay(1)", x.stay(1), 1);
         due("stay(4): those aside leave", x.stay(4), 0);
-        x.leave(2);
-        x.join(2, 0);
-        due("stay(7): just one can, 1 or 2", x.stay(7), 1);
         due("stay(15)", x.stay(15), NONE);
+        x.leave(2);
+        due("stay(7): 1 stays", x.stay(7), 1);
         x = ruledBy("between if walk=0 then 1 else 3 end;");
         x.join(1, 0);
         due("it stays though between is other now", x.stay(1), 1);

@@ -1,4 +1,5 @@
 import java.io.IOException;
+import java.lang.reflect.Array;
 import java.lang.reflect.Constructor;
 import java.lang.reflect.Field;
 import java.lang.reflect.Member;
@@ -8,7 +9,9 @@ import java.nio.file.Files;
 import java.nio.file.Path;
 import java.util.ArrayList;
 import java.util.Arrays;
+import java.util.IdentityHashMap;
 import java.util.List;
+import java.util.Map;
 import java.util.Set;
 import java.util.TreeSet;
 
@@ -30,9 +33,10 @@ public final class FaceTest {
 
     private static int wrong = 0;
 
-    public static void main(String[] args) throws IOException {
+    public static void main(String[] args) throws IOException, IllegalAccessException {
         members();
         nestedClasses();
+        size();
         // .ci/run tells where the source is
         String source = System.getProperty("source");
         if (source != null) {
@@ -103,6 +107,41 @@ public final class FaceTest {
         }
         for (Method m : Procession.class.getDeclaredMethods()) {
             due(!isPrivate(m) || !names.contains(m.getName()), m + " bears a public name");
+        }
+    }
+
+    /** All objects of a run share one room of 600,000 of them and 7.3 million elements: one must be far below. */
+    private static void size() throws IllegalAccessException {
+        Map<Object, Integer> parts = new IdentityHashMap<>();
+        gather(new Procession(), parts);
+        int elements = parts.values().stream().mapToInt(Integer::intValue).sum();
+        due(parts.size() <= 60 && elements <= 14000, "an object has " + parts.size() + " parts of " + elements + " elements");
+    }
+
+    /** Puts down each object that is part of one, with how many fields or elements it has. */
+    private static void gather(Object one, Map<Object, Integer> parts) throws IllegalAccessException {
+        if (one == null || parts.containsKey(one) || one instanceof String) {
+            return;
+        }
+        if (one.getClass().isArray()) {
+            parts.put(one, Array.getLength(one));
+            for (int i = 0; one instanceof Object[] && i < Array.getLength(one); i++) {
+                gather(Array.get(one, i), parts);
+            }
+            return;
+        }
+        List<Field> own = new ArrayList<>();
+        for (Field f : one.getClass().getDeclaredFields()) {
+            if (!Modifier.isStatic(f.getModifiers())) {
+                own.add(f);
+            }
+        }
+        parts.put(one, own.size());
+        for (Field f : own) {
+            if (!f.getType().isPrimitive()) {
+                f.setAccessible(true);
+                gather(f.get(one), parts);
+            }
         }
     }
 
